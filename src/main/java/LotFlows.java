@@ -34,9 +34,6 @@ public final class LotFlows {
         if (!isAmount(amount) || !isDay(day)) {
             return NONE;
         }
-        if (nodes.count >= MAX_NODES) {
-            return FULL;
-        }
         int lot = nodes.addLot(amount, day);
         stock.admit(lot);
         return lot;
@@ -45,9 +42,6 @@ public final class LotFlows {
     public int thing(int kind) {
         if (kind < DRAIN || kind > LAST_KIND) {
             return NONE;
-        }
-        if (nodes.count >= MAX_NODES) {
-            return FULL;
         }
         return nodes.add(kind);
     }
@@ -329,6 +323,7 @@ public final class LotFlows {
             return has(node) && kind[node] != LOT;
         }
 
+        /** The new node's number, or FULL. */
         int add(int kindOfNode) {
             if (count >= MAX_NODES) {
                 return FULL;
@@ -442,7 +437,7 @@ public final class LotFlows {
             return sum;
         }
 
-        /** A lot begins with its whole amount of itself. */
+        /** A lot begins with its whole amount of itself; what is no lot begins with nothing. */
         void admit(int lot) {
             if (!nodes.isLot(lot)) {
                 return;

@@ -180,9 +180,11 @@ final class PromisesTest {
         LotFlows x = new LotFlows();
         x.lot(1000, 0);
         x.thing(1);
-        for (int i = 0; i < 400; i++) {
+        for (int i = 0; i < 399; i++) {
             told(x, 0, 1, 1, 400 - i);
         }
+        checks.flow(x, 0, 1, 602, 1, Checks.STATE);
+        told(x, 0, 1, 1, 1);
         checks.flow(x, 0, 1, 1, 1, Checks.INDEX);
         checks.flow(x, 0, 0, 0, -1, Checks.INDEX);
         due("4: left(1)", x.left(1), 400);
@@ -476,7 +478,13 @@ final class PromisesTest {
         due("13: none came", x.back(4, 0), NONE);
         due("13: none went", x.loss(3), 0);
         due("13: back again", x.correct(3, 1, 100_000), 2);
-        due("13: the greatest", x.correct(0, 100, 100_000), 3);
+        due("13: all of the lot", x.correct(0, 100, 100_000), 3);
+        LotFlows y = new LotFlows();
+        y.lot(1_000_000, 0);
+        y.thing(1);
+        told(y, 0, 1, 1, 0);
+        due("13: the greatest", y.correct(0, 1_000_000, 0), 2);
+        due("13: left(1)", y.left(1), 1_000_000);
     }
 
     private static void correctRefused() {
