@@ -35,7 +35,9 @@ public final class LotFlows {
             return NONE;
         }
         int lot = nodes.addLot(amount, day);
-        stock.admit(lot);
+        if (nodes.isLot(lot)) {
+            stock.admit(lot);
+        }
         return lot;
     }
 
@@ -78,7 +80,7 @@ public final class LotFlows {
         }
         long above = stock.unitsOf(node, lot);
         long below = stock.unitsIn(node);
-        if (above <= 0 || below <= 0) {
+        if (below <= 0) {
             return part;
         }
         long divisor = greatestDivisor(above, below);
@@ -410,8 +412,11 @@ public final class LotFlows {
         final long[] drained = new long[MAX_NODES];
         /** Of each node a bit for each lot of which units came into it. */
         final long[] reached = new long[MAX_NODES];
+        /** The lots in the node that is being parted, by numbers, and of each its portion and its rest. */
+        final int[] present = new int[MAX_NODES];
         final long[] portion = new long[MAX_NODES];
         final long[] rest = new long[MAX_NODES];
+        int presentCount;
 
         Stock(Nodes nodesToStock) {
             nodes = nodesToStock;
@@ -437,11 +442,8 @@ public final class LotFlows {
             return sum;
         }
 
-        /** A lot begins with its whole amount of itself; what is no lot begins with nothing. */
+        /** A lot begins with its whole amount of itself. */
         void admit(int lot) {
-            if (!nodes.isLot(lot)) {
-                return;
-            }
             units[lot * MAX_NODES + lot] = nodes.amount[lot];
             came[lot] = nodes.amount[lot];
             reached[lot] = 1L << lot;
@@ -466,7 +468,9 @@ public final class LotFlows {
             Arrays.fill(drained, 0L);
             Arrays.fill(reached, 0L);
             for (int node = 0; node < nodes.count; node++) {
-                admit(node);
+                if (nodes.isLot(node)) {
+                    admit(node);
+                }
             }
         }
 
@@ -476,12 +480,12 @@ public final class LotFlows {
             if (there <= 0 || amount > there) {
                 return false;
             }
-            part(from, there, amount);
-            for (int lot = 0; lot < nodes.count; lot++) {
-                if (portion[lot] > 0) {
-                    units[from * MAX_NODES + lot] -= portion[lot];
-                    units[to * MAX_NODES + lot] += portion[lot];
-                    reached[to] |= 1L << lot;
+            if (nodes.isLot(from)) {
+                carry(from, to, from, amount);
+            } else {
+                part(from, there, amount);
+                for (int i = 0; i < presentCount; i++) {
+                    carry(from, to, present[i], portion[i]);
                 }
             }
             went[from] += amount;
@@ -492,22 +496,35 @@ public final class LotFlows {
             return true;
         }
 
-        /** Fills the portions of all lots in an amount that is taken from a node. */
+        private void carry(int from, int to, int lot, long amount) {
+            if (amount > 0) {
+                units[from * MAX_NODES + lot] -= amount;
+                units[to * MAX_NODES + lot] += amount;
+                reached[to] |= 1L << lot;
+            }
+        }
+
+        /** Fills the portions of the lots in an amount that is taken from a thing. */
         private void part(int from, long there, long amount) {
+            presentCount = 0;
             if (there <= 0) {
                 return;
             }
             long over = amount;
             for (int lot = 0; lot < nodes.count; lot++) {
                 long product = unitsOf(from, lot) * amount;
-                portion[lot] = product / there;
-                rest[lot] = product % there;
-                over -= portion[lot];
+                if (product > 0) {
+                    present[presentCount] = lot;
+                    portion[presentCount] = product / there;
+                    rest[presentCount] = product % there;
+                    over -= portion[presentCount];
+                    presentCount++;
+                }
             }
-            for (int i = 0; i < nodes.count && over > 0; i++) {
-                int lot = greatestRest();
-                portion[lot]++;
-                rest[lot] = 0;
+            for (int i = 0; i < presentCount && over > 0; i++) {
+                int next = greatestRest();
+                portion[next]++;
+                rest[next] = 0;
                 over--;
             }
         }
@@ -515,9 +532,9 @@ public final class LotFlows {
         /** Units left over are always fewer than the lots with a rest, so a rest that was served can stand as 0. */
         private int greatestRest() {
             int greatest = 0;
-            for (int lot = 1; lot < nodes.count; lot++) {
-                if (rest[lot] > rest[greatest]) {
-                    greatest = lot;
+            for (int i = 1; i < presentCount; i++) {
+                if (rest[i] > rest[greatest]) {
+                    greatest = i;
                 }
             }
             return greatest;

@@ -7,10 +7,13 @@ import java.util.Random;
 import java.util.TreeMap;
 import java.util.TreeSet;
 
-/** Long runs of calls, the same each time, beside a slow model that works everything out anew at each question. */
+/** Runs of 512 calls, the same each time, beside a slow model that works everything out anew after each change. */
 final class ModelTest {
     private static final int NONE = -1;
+    private static final int RUNS = 1000;
     private static final int CALLS = 512;
+    /** The last calls of a run are questions alone. */
+    private static final int CHANGES = 400;
 
     private static final class Node {
         boolean lot;
@@ -54,6 +57,13 @@ final class ModelTest {
         final List<Flow> flows = new ArrayList<>();
         final List<long[]> rows = new ArrayList<>();
         long lastTold;
+        /** What stands behind all flows; null when something has changed since it was worked out. */
+        private World known;
+
+        /** To be called after each change of nodes or flows. */
+        private void changed() {
+            known = null;
+        }
 
         boolean has(int node) {
             return node >= 0 && node < nodes.size();
@@ -68,6 +78,13 @@ final class ModelTest {
         }
 
         World world() {
+            if (known == null) {
+                known = workedOut();
+            }
+            return known;
+        }
+
+        private World workedOut() {
             World w = new World();
             for (int i = 0; i < nodes.size(); i++) {
                 w.in.add(new TreeMap<>());
@@ -142,6 +159,7 @@ final class ModelTest {
             n.amount = amount;
             n.day = day;
             nodes.add(n);
+            changed();
             return nodes.size() - 1;
         }
 
@@ -158,7 +176,7 @@ final class ModelTest {
             }
             addFlow(from, to, amount, day);
             if (!world().possible) {
-                flows.remove(flows.size() - 1);
+                removeFlows(flows.size() - 1);
                 return Checks.STATE;
             }
             return Checks.TOLD;
@@ -172,6 +190,14 @@ final class ModelTest {
             f.amount = amount;
             f.day = day;
             flows.add(f);
+            changed();
+        }
+
+        private void removeFlows(int former) {
+            while (flows.size() > former) {
+                flows.remove(flows.size() - 1);
+            }
+            changed();
         }
 
         int correct(int flow, long amount, long told) {
@@ -186,9 +212,11 @@ final class ModelTest {
             World before = world();
             long former = f.amount;
             f.amount = amount;
+            changed();
             World after = world();
             if (!after.possible) {
                 f.amount = former;
+                changed();
                 return NONE;
             }
             lastTold = told;
@@ -231,9 +259,7 @@ final class ModelTest {
             }
             int made = flows.size() - former;
             if (missing > 0 || flows.size() > 400 || !world().possible) {
-                while (flows.size() > former) {
-                    flows.remove(flows.size() - 1);
-                }
+                removeFlows(former);
                 return NONE;
             }
             return made;
@@ -282,7 +308,7 @@ final class ModelTest {
 
     public static void main(String[] args) {
         Checks checks = new Checks();
-        for (int seed = 1; seed <= 240 && !checks.anyWrong(); seed++) {
+        for (int seed = 1; seed <= RUNS && !checks.anyWrong(); seed++) {
             new ModelTest(checks, seed).run();
         }
         checks.end();
@@ -290,13 +316,12 @@ final class ModelTest {
 
     private void run() {
         for (int call = 0; call < CALLS && !checks.anyWrong(); call++) {
-            if (model.nodes.size() < nodeLimit && random.nextInt(call < 60 ? 2 : 12) == 0) {
+            if (call >= CHANGES || random.nextInt(5) == 0) {
+                ask();
+            } else if (model.nodes.size() < nodeLimit && random.nextInt(call < 60 ? 2 : 12) == 0) {
                 node();
             } else {
                 change();
-            }
-            if (call % 16 == 15) {
-                askAll();
             }
         }
     }
@@ -396,50 +421,53 @@ final class ModelTest {
         checks.due(name + "place(" + node + ", " + p + ", " + customer + ")", x.place(node, p, customer), taken);
     }
 
-    private void askAll() {
-        World w = model.world();
-        for (int node = -1; node <= model.nodes.size(); node++) {
-            boolean has = model.has(node);
-            checks.due(name + "left(" + node + ")", x.left(node), has ? w.total(node) : NONE);
-            checks.due(name + "loss(" + node + ")", x.loss(node), has ? w.lost.get(node) : NONE);
-            checks.due(name + "whole(" + node + ")", x.whole(node), has);
-            List<Integer> lots = has ? new ArrayList<>(w.reached.get(node)) : List.of();
-            List<Integer> sinks = new ArrayList<>();
-            for (int to = 0; to < model.nodes.size(); to++) {
-                if (model.isSink(to) && w.reached.get(to).contains(node)) {
-                    sinks.add(to);
-                }
-            }
-            for (int k = -1; k < 50; k++) {
-                checks.due(name + "back(" + node + ", " + k + ")", x.back(node, k),
-                        k >= 0 && k < lots.size() ? lots.get(k) : NONE);
-                checks.due(name + "forward(" + node + ", " + k + ")", x.forward(node, k),
-                        k >= 0 && k < sinks.size() ? sinks.get(k) : NONE);
-            }
-            for (int lot = -1; lot <= model.nodes.size(); lot++) {
-                askShare(w, node, lot);
-            }
-        }
-        for (int k = -1; k <= model.rows.size(); k++) {
-            for (int what = -1; what < 5; what++) {
-                boolean has = k >= 0 && k < model.rows.size() && what >= 0 && what < 4;
-                checks.due(name + "recalled(" + k + ", " + what + ")", x.recalled(k, what),
-                        has ? model.rows.get(k)[what] : NONE);
-            }
+    private void ask() {
+        int node = anyNode();
+        int k = random.nextInt(1 + random.nextInt(50)) - 1;
+        switch (random.nextInt(8)) {
+            case 0 -> checks.due(name + "left(" + node + ")", x.left(node),
+                    model.has(node) ? model.world().total(node) : NONE);
+            case 1 -> checks.due(name + "loss(" + node + ")", x.loss(node),
+                    model.has(node) ? model.world().lost.get(node) : NONE);
+            case 2 -> checks.due(name + "whole(" + node + ")", x.whole(node), model.has(node));
+            case 3 -> askBack(node, k);
+            case 4 -> askForward(anyLot(), k);
+            case 5 -> askRecalled(random.nextInt(model.rows.size() + 2) - 1, random.nextInt(6) - 1);
+            default -> askShare(node, anyLot(), random.nextInt(10) == 0 ? random.nextInt(5) - 2 : random.nextInt(2));
         }
     }
 
-    private void askShare(World w, int node, int lot) {
-        long above = NONE;
-        long below = NONE;
-        if (model.has(node) && model.isLot(lot)) {
+    private void askBack(int node, int k) {
+        List<Integer> lots = model.has(node) ? new ArrayList<>(model.world().reached.get(node)) : List.of();
+        checks.due(name + "back(" + node + ", " + k + ")", x.back(node, k),
+                k >= 0 && k < lots.size() ? lots.get(k) : NONE);
+    }
+
+    private void askForward(int lot, int k) {
+        List<Integer> sinks = new ArrayList<>();
+        for (int to = 0; to < model.nodes.size(); to++) {
+            if (model.isSink(to) && model.world().reached.get(to).contains(lot)) {
+                sinks.add(to);
+            }
+        }
+        checks.due(name + "forward(" + lot + ", " + k + ")", x.forward(lot, k),
+                k >= 0 && k < sinks.size() ? sinks.get(k) : NONE);
+    }
+
+    private void askRecalled(int k, int what) {
+        boolean has = k >= 0 && k < model.rows.size() && what >= 0 && what < 4;
+        checks.due(name + "recalled(" + k + ", " + what + ")", x.recalled(k, what),
+                has ? model.rows.get(k)[what] : NONE);
+    }
+
+    private void askShare(int node, int lot, int part) {
+        long want = NONE;
+        if (model.has(node) && model.isLot(lot) && (part == 0 || part == 1)) {
+            World w = model.world();
             BigInteger units = BigInteger.valueOf(w.of(node, lot));
             BigInteger total = BigInteger.valueOf(Math.max(1, w.total(node)));
-            BigInteger divisor = units.gcd(total);
-            above = units.divide(divisor).longValueExact();
-            below = total.divide(divisor).longValueExact();
+            want = (part == 0 ? units : total).divide(units.gcd(total)).longValueExact();
         }
-        checks.due(name + "share(" + node + ", " + lot + ", 0)", x.share(node, lot, 0), above);
-        checks.due(name + "share(" + node + ", " + lot + ", 1)", x.share(node, lot, 1), below);
+        checks.due(name + "share(" + node + ", " + lot + ", " + part + ")", x.share(node, lot, part), want);
     }
 }
