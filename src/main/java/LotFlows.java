@@ -10,6 +10,7 @@ public final class LotFlows {
     private static final long MAX_AMOUNT = 1_000_000L;
     private static final long MAX_DAY = 100_000L;
     private static final int PLACES = 1000;
+    private static final long MAX_UNITS_IN_ROW = 2_147_483_647L;
     private static final int DRAIN = 0;
     private static final int LAST_KIND = 4;
     private static final int LOT = 5;
@@ -153,7 +154,7 @@ public final class LotFlows {
             case 1:
                 return list.spot[k] / PLACES;
             case 2:
-                return (int) Math.min(list.units[k], (long) Integer.MAX_VALUE);
+                return (int) Math.min(list.units[k], MAX_UNITS_IN_ROW);
             case 3:
                 return list.holders[k];
             default:

@@ -2,7 +2,9 @@ import java.lang.reflect.Constructor;
 import java.lang.reflect.Field;
 import java.lang.reflect.Method;
 import java.lang.reflect.Modifier;
+import java.util.ArrayList;
 import java.util.Arrays;
+import java.util.List;
 import java.util.Set;
 import java.util.TreeSet;
 
@@ -21,7 +23,35 @@ final class FaceTest {
                 "recall int [int]", "recalled int [int, int]", "hold boolean [int, boolean]",
                 "correct int [int, long, long]", "top int [int, int, long]", "whole boolean [int]",
                 "loss long [int]"))), true);
+        checks.due("the members are public, the constants static and final", modifiersAreDue(), true);
+        checks.due("flow throws what the document names, nothing else is told to throw", thrown().equals(
+                Arrays.asList("flow IndexOutOfBoundsException", "flow IllegalArgumentException",
+                        "flow IllegalStateException")), true);
         checks.end();
+    }
+
+    private static boolean modifiersAreDue() {
+        boolean due = LotFlows.class.getConstructors().length == 1;
+        for (Field f : LotFlows.class.getFields()) {
+            due &= f.getModifiers() == (Modifier.PUBLIC | Modifier.STATIC | Modifier.FINAL);
+        }
+        for (Method m : LotFlows.class.getDeclaredMethods()) {
+            due &= Modifier.isPrivate(m.getModifiers()) || m.getModifiers() == Modifier.PUBLIC;
+        }
+        for (Class<?> c : LotFlows.class.getDeclaredClasses()) {
+            due &= Modifier.isStatic(c.getModifiers()) && !Modifier.isPublic(c.getModifiers());
+        }
+        return due && LotFlows.class.getFields().length == 2;
+    }
+
+    private static List<String> thrown() {
+        List<String> thrown = new ArrayList<>();
+        for (Method m : LotFlows.class.getDeclaredMethods()) {
+            for (Class<?> e : m.getExceptionTypes()) {
+                thrown.add(m.getName() + " " + e.getSimpleName());
+            }
+        }
+        return thrown;
     }
 
     private static Set<String> seen() {

@@ -28,6 +28,7 @@ final class PromisesTest {
         topLimit();
         whole();
         loss();
+        exampleOfTheReadme();
         checks.end();
     }
 
@@ -646,5 +647,29 @@ final class PromisesTest {
         for (int none : WRONG) {
             due("16: loss(" + none + ")", x.loss(none), NONE);
         }
+    }
+
+    private static void exampleOfTheReadme() {
+        LotFlows x = new LotFlows();
+        int malt = x.lot(100, 0);
+        int tank = x.thing(2);
+        int drain = x.thing(0);
+        told(x, malt, tank, 40, 1);
+        told(x, tank, drain, 5, 2);
+        due("README: left", x.left(tank), 35);
+        due("README: loss", x.loss(tank), 5);
+        due("README: share, above", x.share(tank, malt, 0), 1);
+        due("README: share, below", x.share(tank, malt, 1), 1);
+        due("README: correct", x.correct(0, 30, 3), 2);
+        due("README: back", x.back(drain, 0), malt);
+        due("README: forward", x.forward(malt, 1), drain);
+        due("README: place", x.place(tank, 12, 7), true);
+        due("README: recall", x.recall(malt), 1);
+        due("README: recalled", x.recalled(0, 2), 25);
+        due("README: hold", x.hold(malt, true), true);
+        checks.flow(x, malt, tank, 1, 4, Checks.STATE);
+        due("README: hold off", x.hold(malt, false), true);
+        due("README: top", x.top(tank, LotFlows.NONE, 10), 1);
+        due("README: whole", x.whole(tank), true);
     }
 }
